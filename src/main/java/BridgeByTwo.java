@@ -68,10 +68,21 @@ public final class BridgeByTwo {
     return letters.number();
   }
 
+  /** All of the text comes or nothing: it is done on a copy, which then takes the place of what is now. */
   public int bridge() {
-    int answer = readLetters();
+    int stray = letters.firstStray();
+    trial.become(now);
+    int wrong = stray == NONE ? letters.firstWrong(trial) : NONE;
+    int statements = letters.statements();
     letters.forget();
-    return answer;
+    if (stray != NONE) {
+      return STRAY_FAULT - stray;
+    }
+    if (wrong != NONE) {
+      return WRONG_FAULT - wrong;
+    }
+    now.become(trial);
+    return statements;
   }
 
   public int stone(int stone, int what) {
@@ -492,21 +503,6 @@ public final class BridgeByTwo {
     }
   }
 
-  /** All of the text comes or nothing: it is tried on a copy, which takes the place of what is now. */
-  private int readLetters() {
-    int stray = letters.firstStray();
-    if (stray != NONE) {
-      return STRAY_FAULT - stray;
-    }
-    trial.become(now);
-    int wrong = letters.firstWrong(trial);
-    if (wrong != NONE) {
-      return WRONG_FAULT - wrong;
-    }
-    now.become(trial);
-    return letters.statements();
-  }
-
   private int refuse(int refusal) {
     int number = -refusal;
     if (between(number, 1, REFUSALS)) {
@@ -639,12 +635,22 @@ public final class BridgeByTwo {
       number = Math.max(number - n, 0);
     }
 
-    int number() {
-      return number;
+    boolean isLastOfOther(int mason, int style) {
+      int last = number - 1;
+      return last >= 0 && last < PLACES && layers[last] != mason && kinds[last] != style;
     }
 
-    int last() {
-      return number - 1;
+    void remakeLast(int kind, int figure, int mason) {
+      int last = number - 1;
+      if (last >= 0 && last < PLACES) {
+        kinds[last] = kind;
+        figures[last] = figure;
+        layers[last] = mason;
+      }
+    }
+
+    int number() {
+      return number;
     }
 
     boolean hasRoom() {
@@ -668,8 +674,11 @@ public final class BridgeByTwo {
     }
 
     int holdOf(int stone) {
-      int plain = figureOf(stone) + 1;
-      switch (kindOf(stone)) {
+      if (!has(stone)) {
+        return 0;
+      }
+      int plain = figures[stone] + 1;
+      switch (kinds[stone]) {
         case WEST:
           return plain - 1;
         case HEAVY:
@@ -684,8 +693,11 @@ public final class BridgeByTwo {
     }
 
     int leanOf(int stone) {
-      int east = figureOf(stone) > 5 ? 2 : 1;
-      switch (kindOf(stone)) {
+      if (!has(stone)) {
+        return 0;
+      }
+      int east = figures[stone] > 5 ? 2 : 1;
+      switch (kinds[stone]) {
         case EAST:
           return east;
         case WEST:
@@ -706,7 +718,7 @@ public final class BridgeByTwo {
     }
 
     int leanAtEnd() {
-      return leanUpTo(last());
+      return leanUpTo(number - 1);
     }
 
     int farthestLean() {
@@ -731,27 +743,30 @@ public final class BridgeByTwo {
     }
 
     int joints() {
-      return Math.max(number - 1, 0);
+      return number > 1 ? number - 1 : 0;
     }
 
     boolean hasJoint(int joint) {
-      return joint >= 0 && joint < joints();
+      return joint >= 0 && joint < number - 1 && joint < PLACES - 1;
     }
 
     boolean isOfOneKind(int joint) {
-      return kindOf(joint) == kindOf(joint + 1);
+      return hasJoint(joint) && kinds[joint] == kinds[joint + 1];
     }
 
     boolean isLaidByTwo(int joint) {
-      return layerOf(joint) != layerOf(joint + 1);
+      return hasJoint(joint) && layers[joint] != layers[joint + 1];
     }
 
     int heldBy(int joint) {
+      if (!hasJoint(joint)) {
+        return 0;
+      }
       int lesser = Math.min(holdOf(joint), holdOf(joint + 1));
-      if (isOfOneKind(joint)) {
+      if (kinds[joint] == kinds[joint + 1]) {
         return lesser + 3;
       }
-      return isLaidByTwo(joint) ? Math.max(lesser - 1, 0) : lesser;
+      return layers[joint] == layers[joint + 1] ? lesser : Math.max(lesser - 1, 0);
     }
 
     int loadOn(int joint) {
@@ -775,22 +790,22 @@ public final class BridgeByTwo {
       return firstBreak() == NONE && firstLeaning() == NONE;
     }
 
-    int weakestJoint() {
-      int weakest = NONE;
-      int least = 0;
-      for (int joint = 0; joint < joints(); joint++) {
-        int spare = spareOf(joint);
-        if (weakest == NONE || spare < least) {
-          weakest = joint;
-          least = spare;
-        }
+    int leastSpare() {
+      int least = joints() == 0 ? 0 : spareOf(0);
+      for (int joint = 1; joint < joints(); joint++) {
+        least = Math.min(least, spareOf(joint));
       }
-      return weakest;
+      return least;
     }
 
-    int leastSpare() {
-      int weakest = weakestJoint();
-      return weakest == NONE ? 0 : spareOf(weakest);
+    int weakestJoint() {
+      int least = leastSpare();
+      for (int joint = 0; joint < joints(); joint++) {
+        if (spareOf(joint) == least) {
+          return joint;
+        }
+      }
+      return NONE;
     }
 
     int lackOfAll() {
@@ -932,29 +947,20 @@ public final class BridgeByTwo {
 
     private void work(int mason) {
       Mason worker = masonOf(mason);
-      int last = stones.last();
-      if (isCorrectedBy(mason)) {
-        stones.remake(last, worker.style, worker.hand);
-        stones.creditTo(last, mason);
+      boolean isCross = (worker.spite + quarrels) % 10 >= 5;
+      if (isCross && stones.isLastOfOther(mason, worker.style)) {
+        stones.remakeLast(worker.style, worker.hand, mason);
         quarrels = Math.min(quarrels + 1, MOST_QUARRELS);
       } else if (stones.hasRoom()) {
         stones.add(worker.style, worker.hand, mason);
       }
     }
-
-    private boolean isCorrectedBy(int mason) {
-      int last = stones.last();
-      Mason worker = masonOf(mason);
-      return stones.has(last)
-          && stones.layerOf(last) != mason
-          && stones.kindOf(last) != worker.style
-          && (worker.spite + quarrels) % 10 >= 5;
-    }
   }
 
   /** The letters of a bridge that is being told. */
   private static final class Letters {
-    private static final int NO_LETTER = -1;
+    // A letter that no bridge has.
+    private static final int NO_LETTER = 0;
 
     private final int[] letters = new int[MOST_LETTERS];
     private int number;
@@ -983,7 +989,7 @@ public final class BridgeByTwo {
       if (number == 0) {
         return 0;
       }
-      for (int start = 0; start < number; start += lengthOf(start)) {
+      for (int start = 0; start < number; start += 1 + lengthBehind(start)) {
         int stray = strayOf(start);
         if (stray != NONE) {
           return stray;
@@ -992,10 +998,10 @@ public final class BridgeByTwo {
       return NONE;
     }
 
-    /** Does what is told with the bridge, up to the first statement that is not as it must be: its place. */
+    /** The place of the first statement that is not as it must be; all ahead of it is done to the bridge. */
     int firstWrong(Bridge bridge) {
-      for (int start = 0; start < number; start += lengthOf(start)) {
-        if (!isDone(start, bridge)) {
+      for (int start = 0; start < number; start += 1 + lengthBehind(start)) {
+        if (!perform(start, bridge)) {
           return start;
         }
       }
@@ -1004,7 +1010,7 @@ public final class BridgeByTwo {
 
     int statements() {
       int statements = 0;
-      for (int start = 0; start < number; start += lengthOf(start)) {
+      for (int start = 0; start < number; start += 1 + lengthBehind(start)) {
         statements++;
       }
       return statements;
@@ -1022,8 +1028,8 @@ public final class BridgeByTwo {
       return KIND_LETTERS.indexOf((char) letterAt(place));
     }
 
-    private int lengthOf(int start) {
-      return 1 + formBehind(letterAt(start)).length();
+    private int lengthBehind(int start) {
+      return formBehind(letterAt(start)).length();
     }
 
     /** What comes behind a statement's first letter: k a letter of a kind, d a digit; nothing, if none begins so. */
@@ -1069,24 +1075,25 @@ public final class BridgeByTwo {
       }
     }
 
-    private boolean isDone(int start, Bridge bridge) {
+    /** Whether the statement is as it must be: then it is done, else nothing is. */
+    private boolean perform(int start, Bridge bridge) {
       switch (letterAt(start)) {
         case 's':
-          return isLaid(start, bridge.stones);
+          return layStone(start, bridge.stones);
         case 'c':
-          return isRemade(start, bridge.stones);
+          return correctStone(start, bridge.stones);
         case 'm':
-          return isMinded(start, bridge);
+          return changeMason(start, bridge);
         case 'u':
-          return isTaken(start, bridge.stones);
+          return takeStones(start, bridge.stones);
         case 'd':
-          return isPassed(start, bridge);
+          return passDays(start, bridge);
         default:
           return false;
       }
     }
 
-    private boolean isLaid(int start, Stones stones) {
+    private boolean layStone(int start, Stones stones) {
       int mason = digitAt(start + 3);
       if (!isMason(mason) || !stones.hasRoom()) {
         return false;
@@ -1095,7 +1102,7 @@ public final class BridgeByTwo {
       return true;
     }
 
-    private boolean isRemade(int start, Stones stones) {
+    private boolean correctStone(int start, Stones stones) {
       int stone = digitAt(start + 1);
       if (!stones.has(stone)) {
         return false;
@@ -1104,19 +1111,19 @@ public final class BridgeByTwo {
       return true;
     }
 
-    private boolean isMinded(int start, Bridge bridge) {
-      int number = digitAt(start + 1);
-      if (!isMason(number)) {
+    private boolean changeMason(int start, Bridge bridge) {
+      int who = digitAt(start + 1);
+      if (!isMason(who)) {
         return false;
       }
-      Mason mason = bridge.masonOf(number);
+      Mason mason = bridge.masonOf(who);
       mason.style = kindAt(start + 2);
       mason.hand = digitAt(start + 3);
       mason.spite = digitAt(start + 4);
       return true;
     }
 
-    private boolean isTaken(int start, Stones stones) {
+    private boolean takeStones(int start, Stones stones) {
       int n = digitAt(start + 1);
       if (!between(n, 1, stones.number())) {
         return false;
@@ -1125,7 +1132,7 @@ public final class BridgeByTwo {
       return true;
     }
 
-    private boolean isPassed(int start, Bridge bridge) {
+    private boolean passDays(int start, Bridge bridge) {
       int n = 10 * digitAt(start + 1) + digitAt(start + 2);
       if (!between(n, 1, MOST_DAYS) || !bridge.hasTimeFor(n)) {
         return false;
@@ -1225,7 +1232,11 @@ public final class BridgeByTwo {
       int choices = 1 << now.number();
       for (int size = 0; size <= now.number(); size++) {
         for (int bits = 0; bits < choices; bits++) {
-          if (Integer.bitCount(bits) == size && standsWithPlain(bits)) {
+          if (Integer.bitCount(bits) != size) {
+            continue;
+          }
+          makePlain(bits);
+          if (changed.stand()) {
             return bits;
           }
         }
@@ -1233,14 +1244,13 @@ public final class BridgeByTwo {
       return NONE;
     }
 
-    private boolean standsWithPlain(int bits) {
+    private void makePlain(int bits) {
       changed.become(now);
       for (int stone = 0; stone < now.number(); stone++) {
         if (hasBit(bits, stone)) {
           changed.remake(stone, PLAIN, MOST_FIGURE);
         }
       }
-      return changed.stand();
     }
 
     int fewestToTake() {
