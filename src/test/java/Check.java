@@ -4,10 +4,18 @@ final class Check {
   private int asked;
 
   void due(String call, long got, long want) {
+    so(call + " answered " + got + ", due is " + want, got == want);
+  }
+
+  void same(String what, Object got, Object want) {
+    so(what + ": " + got + ", due is " + want, got.equals(want));
+  }
+
+  void so(String what, boolean is) {
     asked++;
-    if (got != want) {
+    if (!is) {
       wrong++;
-      System.out.println(call + " answered " + got + ", due is " + want);
+      System.out.println(what);
     }
   }
 

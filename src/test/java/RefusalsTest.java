@@ -1,169 +1,343 @@
-/** What each call refuses, in the order in which it tells it, and that nothing changes but how many there were. */
+import java.util.ArrayList;
+import java.util.List;
+import java.util.function.ToLongFunction;
+
+/**
+ * What each call refuses: just below the least and above the greatest and at the ends of int, the first that fits in the
+ * order in which its promise tells it; and that nothing changes by it but how many there were.
+ */
 public final class RefusalsTest {
   private static final Check CHECK = new Check();
-  private static final int FAR = 1000000000;
-  private static final long FAR_LONG = 4000000000000000000L;
-  private static final int LEAST = Integer.MIN_VALUE;
-  private static final int MOST = Integer.MAX_VALUE;
+  private static final int FINE = 0;
+  private static final int NOBODY = -1;
+  private static final int OTHER = -2;
+  private static final int STATE = -3;
+  private static final int BELOW = -4;
+  private static final int ROOM = -6;
 
-  private final BridgeByTwo x;
-  private final int[] counted = new int[7];
+  /** The objects of which each call is asked: a new one, one with something of all, one that is full of all. */
+  private enum Kind {
+    NEW(0, 0), SOME(3, 2), FULL(12, 999);
 
-  private RefusalsTest(BridgeByTwo x) {
-    this.x = x;
+    final int stones;
+    final int day;
+
+    Kind(int stones, int day) {
+      this.stones = stones;
+      this.day = day;
+    }
+
+    BridgeByTwo make() {
+      switch (this) {
+        case NEW:
+          return new BridgeByTwo();
+        case SOME:
+          return some();
+        default:
+          return full();
+      }
+    }
+  }
+
+  private final Kind kind;
+  private final List<Long> asItWas;
+
+  private RefusalsTest(Kind kind) {
+    this.kind = kind;
+    this.asItWas = Seen.all(kind.make());
   }
 
   public static void main(String[] args) {
-    BridgeByTwo full = Told.bridge(Told.repeat("sh51;", 12));
-    new RefusalsTest(full).ofStones();
-    new RefusalsTest(Told.bridge("sp50;sp50;d01;")).ofMasonsAndDays();
-    new RefusalsTest(Told.bridge("sp50;sp50;")).ofQuestions();
-    new RefusalsTest(Told.bridge("sp50;sp50;")).ofForesight();
+    for (Kind kind : Kind.values()) {
+      RefusalsTest test = new RefusalsTest(kind);
+      test.ofTelling();
+      test.ofStones();
+      test.ofMasons();
+      test.ofStandingAndLeaning();
+      test.ofDaysToCome();
+      test.ofChoices();
+      test.ofFractions();
+      test.ofTheRow();
+      test.ofTheImage();
+    }
+    eachIsCounted();
+    theyGoOn();
     CHECK.end("RefusalsTest");
   }
 
-  private void refused(String call, long got, int refusal) {
-    refused(call, got, refusal, refusal);
+  private static BridgeByTwo some() {
+    BridgeByTwo x = new BridgeByTwo();
+    x.styles(0, 4);
+    x.hands(0, 2);
+    x.hands(1, 7);
+    x.spites(1, 3);
+    x.lays(1, 8, 1);
+    x.image();
+    // k2 of 0 and p7 of 1, three quarrels.
+    x.days(2);
+    x.lays(2, 3, 0);
+    x.row(50);
+    x.row(50);
+    x.letter('s');
+    x.letter('h');
+    return x;
   }
 
-  private void refused(String call, long got, int refusal, long due) {
-    CHECK.due(call, got, due);
-    counted[-refusal]++;
-    CHECK.due(call + ": how many", x.count(10 - refusal), counted[-refusal]);
+  private static BridgeByTwo full() {
+    BridgeByTwo x = new BridgeByTwo();
+    for (int i = 0; i < 12; i++) {
+      x.lays(i % 6, i % 10, i / 2 % 2);
+    }
+    for (int i = 0; i < 16; i++) {
+      x.days(60);
+      Told.letters(x, "m0h55;");
+      x.row(50 + i);
+    }
+    x.image();
+    x.days(39);
+    return x;
   }
 
-  private void far(String call, long got, int refusal) {
-    refused(call, got, refusal, FAR - refusal);
+  /** Just outside, at the ends of what is taken, and at the ends of int. */
+  private static int[] around(int least, int greatest) {
+    return new int[] {Integer.MIN_VALUE, Integer.MIN_VALUE + 1, least - 1, least, greatest, greatest + 1,
+      Integer.MAX_VALUE - 1, Integer.MAX_VALUE};
   }
 
-  private void farLong(String call, long got, int refusal) {
-    refused(call, got, refusal, FAR_LONG - refusal);
+  private static boolean out(int v, int least, int greatest) {
+    return v < least || v > greatest;
+  }
+
+  /** The first refusal that fits: pairs of whether it does and its number, in the order in which they are told. */
+  private static int first(Object... pairs) {
+    for (int i = 0; i + 1 < pairs.length; i += 2) {
+      if ((Boolean) pairs[i]) {
+        return (Integer) pairs[i + 1];
+      }
+    }
+    return FINE;
+  }
+
+  private void near(String name, int refusal, ToLongFunction<BridgeByTwo> call) {
+    ask(name, refusal, refusal, call);
+  }
+
+  private void far(String name, int refusal, ToLongFunction<BridgeByTwo> call) {
+    ask(name, refusal, 1000000000L - refusal, call);
+  }
+
+  private void farLong(String name, int refusal, ToLongFunction<BridgeByTwo> call) {
+    ask(name, refusal, 4000000000000000000L - refusal, call);
+  }
+
+  private void ask(String name, int refusal, long due, ToLongFunction<BridgeByTwo> call) {
+    BridgeByTwo x = kind.make();
+    long got = call.applyAsLong(x);
+    String where = kind + ": " + name;
+    List<Long> refusals = new ArrayList<>(List.of(0L, 0L, 0L, 0L, 0L, 0L));
+    if (refusal == FINE) {
+      CHECK.so(where + " is not refused", refusals.equals(Seen.refusals(x)));
+      return;
+    }
+    CHECK.due(where, got, due);
+    refusals.set(-refusal - 1, 1L);
+    CHECK.same(where + ": how many refusals", Seen.refusals(x), refusals);
+    CHECK.same(where + " changes nothing", Seen.all(x), asItWas);
+  }
+
+  private void ofTelling() {
+    for (int c : around(0, 255)) {
+      near("letter " + c, first(c < 0, BELOW, c > 255, ROOM, kind == Kind.FULL, ROOM), x -> x.letter(c));
+    }
   }
 
   private void ofStones() {
-    far("stone -1", x.stone(-1, 0), -1);
-    far("stone 12 9", x.stone(12, 9), -1);
-    far("stone least", x.stone(LEAST, 0), -1);
-    far("stone 0 -1", x.stone(0, -1), -2);
-    far("stone 0 6", x.stone(0, 6), -2);
-    refused("joint -1", x.joint(-1, 0), -1);
-    refused("joint 11 9", x.joint(11, 9), -1);
-    refused("joint most", x.joint(MOST, 0), -1);
-    refused("joint 0 -1", x.joint(0, -1), -2);
-    refused("joint 0 2", x.joint(0, 2), -2);
-    refused("lays 6 -1 2", x.lays(6, -1, 2), -2);
-    refused("lays -1 10 2", x.lays(-1, 10, 2), -2);
-    refused("lays 0 -1 2", x.lays(0, -1, 2), -4);
-    refused("lays 0 10 2", x.lays(0, 10, 2), -6);
-    refused("lays 0 0 2", x.lays(0, 0, 2), -1);
-    refused("lays 0 0 -1", x.lays(0, 0, -1), -1);
-    refused("lays 0 0 0", x.lays(0, 0, 0), -6);
-    refused("corrects 12 6 -1", x.corrects(12, 6, -1), -1);
-    refused("corrects -1", x.corrects(-1, 0, 0), -1);
-    refused("corrects 0 6 -1", x.corrects(0, 6, -1), -2);
-    refused("corrects 0 -1 10", x.corrects(0, -1, 10), -2);
-    refused("corrects 0 0 -1", x.corrects(0, 0, -1), -4);
-    refused("corrects 0 0 10", x.corrects(0, 0, 10), -6);
-    refused("takes 0", x.takes(0), -4);
-    refused("takes least", x.takes(LEAST), -4);
-    refused("takes 13", x.takes(13), -6);
-    refused("takes most", x.takes(MOST), -6);
-    CHECK.due("stones", x.count(0), 12);
-    CHECK.due("figures", x.count(3), 60);
-    CHECK.due("by 1", x.count(4), 4095);
-    CHECK.due("kinds", x.kinds(1), 8);
-  }
-
-  private void ofMasonsAndDays() {
-    refused("mason 2 4", x.mason(2, 4), -1);
-    refused("mason -1", x.mason(-1, 0), -1);
-    refused("mason 0 4", x.mason(0, 4), -2);
-    refused("mason 0 -1", x.mason(0, -1), -2);
-    refused("styles 2 6", x.styles(2, 6), -1);
-    refused("styles -1 0", x.styles(-1, 0), -1);
-    refused("styles 0 6", x.styles(0, 6), -2);
-    refused("styles 0 -1", x.styles(0, -1), -2);
-    refused("hands 2 -1", x.hands(2, -1), -1);
-    refused("hands -1 10", x.hands(-1, 10), -1);
-    refused("hands 0 -1", x.hands(0, -1), -4);
-    refused("hands 0 10", x.hands(0, 10), -6);
-    refused("spites 2 -1", x.spites(2, -1), -1);
-    refused("spites -1 10", x.spites(-1, 10), -1);
-    refused("spites 0 -1", x.spites(0, -1), -4);
-    refused("spites 0 10", x.spites(0, 10), -6);
-    refused("days 0", x.days(0), -4);
-    refused("days least", x.days(LEAST), -4);
-    refused("days 61", x.days(61), -6);
-    refused("days most", x.days(MOST), -6);
-    refused("letter -1", x.letter(-1), -4);
-    refused("letter 256", x.letter(256), -6);
-    refused("row -1", x.row(-1), -4);
-    refused("row 100", x.row(100), -6);
-    refused("on", x.on(), -3);
-    for (int mason = 0; mason <= 1; mason++) {
-      CHECK.due("style", x.mason(mason, 0), 0);
-      CHECK.due("hand", x.mason(mason, 1), 5);
-      CHECK.due("spite", x.mason(mason, 2), 5);
+    int last = kind.stones - 1;
+    for (int stone : around(0, last)) {
+      for (int what : around(0, 5)) {
+        far("stone " + stone + " " + what, first(out(stone, 0, last), NOBODY, out(what, 0, 5), OTHER),
+            x -> x.stone(stone, what));
+      }
+      for (int kindOf : around(0, 5)) {
+        for (int figure : around(0, 9)) {
+          near("corrects " + stone + " " + kindOf + " " + figure, first(out(stone, 0, last), NOBODY, out(kindOf, 0, 5),
+              OTHER, figure < 0, BELOW, figure > 9, ROOM), x -> x.corrects(stone, kindOf, figure));
+        }
+      }
     }
-    CHECK.due("day", x.count(2), 1);
-    CHECK.due("row", x.count(6), 0);
-    CHECK.due("letters", x.count(7), 0);
-    CHECK.due("-5", x.count(15), 0);
+    for (int joint : around(0, last - 1)) {
+      for (int what : around(0, 1)) {
+        near("joint " + joint + " " + what, first(out(joint, 0, last - 1), NOBODY, out(what, 0, 1), OTHER),
+            x -> x.joint(joint, what));
+      }
+    }
+    for (int n : around(1, kind.stones)) {
+      near("takes " + n, first(n < 1, BELOW, n > kind.stones, ROOM), x -> x.takes(n));
+    }
+    ofLaying();
   }
 
-  private void ofQuestions() {
-    refused("stands 3", x.stands(3), -2);
-    refused("stands -1", x.stands(-1), -2);
-    far("spare 2", x.spare(2), -2);
-    far("spare -1", x.spare(-1), -2);
-    far("lean 2", x.lean(2), -2);
-    far("lean -1", x.lean(-1), -2);
-    refused("up 2", x.up(2), -2);
-    refused("up -1", x.up(-1), -2);
-    refused("next 2", x.next(2), -1);
-    refused("next -1", x.next(-1), -1);
-    refused("runs 3", x.runs(3), -2);
-    refused("runs -1", x.runs(-1), -2);
-    refused("kinds 2", x.kinds(2), -1);
-    refused("kinds -1", x.kinds(-1), -1);
-    refused("whoLaid 2", x.whoLaid(2), -1);
-    refused("whoLaid -1", x.whoLaid(-1), -1);
-    refused("whatIs 2 2", x.whatIs(2, 2), -1);
-    refused("whatIs -1 0", x.whatIs(-1, 0), -1);
-    refused("whatIs 0 2", x.whatIs(0, 2), -2);
-    refused("whatIs 0 -1", x.whatIs(0, -1), -2);
-    farLong("mean 2", x.mean(2), -2);
-    farLong("mean -1", x.mean(-1), -2);
+  private void ofLaying() {
+    for (int kindOf : around(0, 5)) {
+      for (int figure : around(0, 9)) {
+        for (int mason : around(0, 1)) {
+          int refusal = first(out(kindOf, 0, 5), OTHER, figure < 0, BELOW, figure > 9, ROOM, out(mason, 0, 1), NOBODY,
+              kind.stones >= 12, ROOM);
+          near("lays " + kindOf + " " + figure + " " + mason, refusal, x -> x.lays(kindOf, figure, mason));
+        }
+      }
+    }
   }
 
-  private void ofForesight() {
-    refused("then -1 3", x.then(-1, 3), -4);
-    refused("then 61 3", x.then(61, 3), -6);
-    refused("then 60 3", x.then(60, 3), -2);
-    refused("then 0 -1", x.then(0, -1), -2);
-    refused("yields -1", x.yields(-1), -4);
-    refused("yields 61", x.yields(61), -6);
-    far("best 2 -1 2", x.best(2, -1, 2), -1);
-    far("best -1 21 2", x.best(-1, 21, 2), -1);
-    far("best 0 -1 2", x.best(0, -1, 2), -4);
-    far("best 0 21 2", x.best(0, 21, 2), -6);
-    far("best 0 20 2", x.best(0, 20, 2), -2);
-    far("best 0 0 -1", x.best(0, 0, -1), -2);
-    refused("swap -1", x.swap(-1), -4);
-    refused("swap 61", x.swap(61), -6);
-    refused("two -1", x.two(-1), -4);
-    refused("two 31", x.two(31), -6);
-    farLong("fever -1 21 2", x.fever(-1, 21, 2), -4);
-    farLong("fever 8 1 2", x.fever(8, 1, 2), -4);
-    farLong("fever 8 2 2", x.fever(8, 2, 2), -6);
-    farLong("fever 7 21 2", x.fever(7, 21, 2), -6);
-    farLong("fever 7 20 2", x.fever(7, 20, 2), -2);
-    farLong("fever 0 2 -1", x.fever(0, 2, -1), -2);
-    farLong("fever least", x.fever(LEAST, LEAST, LEAST), -4);
-    farLong("fever most", x.fever(MOST, MOST, MOST), -6);
-    refused("lots 0 0 2", x.lots(0, 0, 2), -4);
-    refused("lots 21 0 2", x.lots(21, 0, 2), -6);
-    refused("lots 20 0 2", x.lots(20, 0, 2), -2);
-    refused("lots 1 0 -1", x.lots(1, 0, -1), -2);
+  private void ofMasons() {
+    for (int mason : around(0, 1)) {
+      boolean nobody = out(mason, 0, 1);
+      for (int what : around(0, 3)) {
+        near("mason " + mason + " " + what, first(nobody, NOBODY, out(what, 0, 3), OTHER), x -> x.mason(mason, what));
+      }
+      for (int style : around(0, 5)) {
+        near("styles " + mason + " " + style, first(nobody, NOBODY, out(style, 0, 5), OTHER),
+            x -> x.styles(mason, style));
+      }
+      for (int v : around(0, 9)) {
+        int refusal = first(nobody, NOBODY, v < 0, BELOW, v > 9, ROOM);
+        near("hands " + mason + " " + v, refusal, x -> x.hands(mason, v));
+        near("spites " + mason + " " + v, refusal, x -> x.spites(mason, v));
+      }
+      near("next " + mason, first(nobody, NOBODY), x -> x.next(mason));
+      near("kinds " + mason, first(nobody, NOBODY), x -> x.kinds(mason));
+    }
+    for (int n : around(1, 60)) {
+      near("days " + n, first(n < 1, BELOW, n > 60, ROOM, n > 999 - kind.day, ROOM), x -> x.days(n));
+    }
+  }
+
+  private void ofStandingAndLeaning() {
+    for (int what : around(0, 2)) {
+      near("stands " + what, first(out(what, 0, 2), OTHER), x -> x.stands(what));
+      near("runs " + what, first(out(what, 0, 2), OTHER), x -> x.runs(what));
+    }
+    for (int what : around(0, 1)) {
+      far("spare " + what, first(out(what, 0, 1), OTHER), x -> x.spare(what));
+      far("lean " + what, first(out(what, 0, 1), OTHER), x -> x.lean(what));
+      near("up " + what, first(out(what, 0, 1), OTHER), x -> x.up(what));
+    }
+  }
+
+  private void ofDaysToCome() {
+    for (int n : around(0, 60)) {
+      for (int what : around(0, 2)) {
+        near("then " + n + " " + what, first(n < 0, BELOW, n > 60, ROOM, out(what, 0, 2), OTHER),
+            x -> x.then(n, what));
+      }
+      near("yields " + n, first(n < 0, BELOW, n > 60, ROOM), x -> x.yields(n));
+      near("swap " + n, first(n < 0, BELOW, n > 60, ROOM), x -> x.swap(n));
+    }
+    for (int n : around(0, 30)) {
+      near("two " + n, first(n < 0, BELOW, n > 30, ROOM), x -> x.two(n));
+    }
+  }
+
+  private void ofChoices() {
+    for (int mason : around(0, 1)) {
+      for (int n : around(0, 20)) {
+        for (int what : around(0, 1)) {
+          far("best " + mason + " " + n + " " + what, first(out(mason, 0, 1), NOBODY, n < 0, BELOW, n > 20, ROOM,
+              out(what, 0, 1), OTHER), x -> x.best(mason, n, what));
+        }
+      }
+    }
+    for (int n : around(1, 20)) {
+      for (int z : around(0, 0)) {
+        for (int what : around(0, 1)) {
+          near("lots " + n + " " + z + " " + what, first(n < 1, BELOW, n > 20, ROOM, out(what, 0, 1), OTHER),
+              x -> x.lots(n, z, what));
+        }
+      }
+    }
+  }
+
+  private void ofFractions() {
+    for (int n : around(0, 7)) {
+      for (int t : around(2, 20)) {
+        for (int part : around(0, 1)) {
+          farLong("fever " + n + " " + t + " " + part, first(n < 0, BELOW, t < 2, BELOW, n > 7, ROOM, t > 20, ROOM,
+              out(part, 0, 1), OTHER), x -> x.fever(n, t, part));
+        }
+      }
+    }
+    for (int part : around(0, 1)) {
+      farLong("mean " + part, first(out(part, 0, 1), OTHER), x -> x.mean(part));
+    }
+  }
+
+  private void ofTheRow() {
+    int last = kind.stones - 1;
+    for (int stone : around(0, last)) {
+      near("whoLaid " + stone, first(out(stone, 0, last), NOBODY), x -> x.whoLaid(stone));
+      for (int what : around(0, 1)) {
+        near("whatIs " + stone + " " + what, first(out(stone, 0, last), NOBODY, out(what, 0, 1), OTHER),
+            x -> x.whatIs(stone, what));
+      }
+    }
+    for (int v : around(0, 99)) {
+      near("row " + v, first(v < 0, BELOW, v > 99, ROOM, kind == Kind.FULL, ROOM), x -> x.row(v));
+    }
+  }
+
+  /** And the calls that refuse nothing. */
+  private void ofTheImage() {
+    near("on", first(kind == Kind.NEW, STATE), BridgeByTwo::on);
+    near("image", FINE, BridgeByTwo::image);
+    near("bridge", FINE, BridgeByTwo::bridge);
+    near("mend", FINE, BridgeByTwo::mend);
+    near("fewest", FINE, BridgeByTwo::fewest);
+    near("take", FINE, BridgeByTwo::take);
+    near("turnBack", FINE, BridgeByTwo::turnBack);
+    near("keystone", FINE, BridgeByTwo::keystone);
+    near("mortar", FINE, BridgeByTwo::mortar);
+    near("peace", FINE, BridgeByTwo::peace);
+    near("judge", FINE, BridgeByTwo::judge);
+    near("clear", FINE, BridgeByTwo::clear);
+    for (int what : around(0, 17)) {
+      near("count " + what, FINE, x -> x.count(what));
+    }
+  }
+
+  private static void eachIsCounted() {
+    BridgeByTwo x = new BridgeByTwo();
+    int[] counted = new int[7];
+    for (int i = 0; i < 6; i++) {
+      x.kinds(2);
+      counted[1]++;
+      for (int k = 0; k < i; k++) {
+        x.runs(3);
+        x.mean(2);
+        counted[2] += 2;
+      }
+      if (i % 2 == 0) {
+        x.on();
+        counted[3]++;
+      }
+      x.spites(0, -1);
+      x.fever(-1, 2, 0);
+      counted[4] += 2;
+      x.row(100);
+      x.best(0, 21, 0);
+      x.takes(1);
+      counted[6] += 3;
+      for (int number = 1; number <= 6; number++) {
+        CHECK.due("round " + i + ", count " + (10 + number), x.count(10 + number), counted[number]);
+      }
+    }
+  }
+
+  /** An object is good for 512 calls, all of which may be refused. */
+  private static void theyGoOn() {
+    BridgeByTwo x = new BridgeByTwo();
+    for (int i = 0; i < 511; i++) {
+      x.next(2);
+    }
+    CHECK.due("the 512th call", x.count(11), 511);
   }
 }
