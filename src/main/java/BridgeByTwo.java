@@ -1189,8 +1189,17 @@ public final class BridgeByTwo {
 
   /** What would be with other stones: each question changes a copy. */
   private static final class Remedies {
+    private static final int AS_IT_IS = 0;
+    private static final int MADE_PLAIN = 1;
+    // More than all bits of stones together.
+    private static final int MANY = 1 << MOST_STONES;
+    private static final int NO_WAY = 1 << 30;
+    private static final int WAYS = 2 * (2 * FARTHEST_LEAN + 1);
+
     private final Stones now;
     private final Stones changed = new Stones();
+    private final int[] ways = new int[WAYS];
+    private final int[] longerWays = new int[WAYS];
 
     Remedies(Stones now) {
       this.now = now;
@@ -1228,29 +1237,66 @@ public final class BridgeByTwo {
       return NONE;
     }
 
+    /**
+     * Found stone by stone: what comes behind a stone asks only for the lean there and whether the stone became plain.
+     * Of all ways to one lean and choice the best one is kept: how many stones, by MANY, and their bits.
+     */
     int fewestToPlain() {
-      int choices = 1 << now.number();
-      for (int size = 0; size <= now.number(); size++) {
-        for (int bits = 0; bits < choices; bits++) {
-          if (Integer.bitCount(bits) != size) {
-            continue;
-          }
-          makePlain(bits);
-          if (changed.stand()) {
-            return bits;
-          }
-        }
+      changed.become(now);
+      for (int i = 0; i < ways.length; i++) {
+        ways[i] = i == placeOfWay(0, AS_IT_IS) ? 0 : NO_WAY;
       }
-      return NONE;
+      for (int stone = 0; stone < now.number(); stone++) {
+        choose(stone);
+      }
+      int best = NO_WAY;
+      for (int i = 0; i < ways.length; i++) {
+        best = Math.min(best, ways[i]);
+      }
+      return best == NO_WAY ? NONE : best % MANY;
     }
 
-    private void makePlain(int bits) {
-      changed.become(now);
-      for (int stone = 0; stone < now.number(); stone++) {
-        if (hasBit(bits, stone)) {
-          changed.remake(stone, PLAIN, MOST_FIGURE);
+    private void choose(int stone) {
+      for (int i = 0; i < longerWays.length; i++) {
+        longerWays[i] = NO_WAY;
+      }
+      for (int before = AS_IT_IS; before <= MADE_PLAIN; before++) {
+        for (int choice = AS_IT_IS; choice <= MADE_PLAIN; choice++) {
+          makeOf(stone - 1, before);
+          makeOf(stone, choice);
+          if (stone == 0 || changed.spareOf(stone - 1) >= 0) {
+            goOn(stone, before, choice);
+          }
         }
       }
+      for (int i = 0; i < ways.length && i < longerWays.length; i++) {
+        ways[i] = longerWays[i];
+      }
+    }
+
+    private void makeOf(int stone, int choice) {
+      if (choice == MADE_PLAIN) {
+        changed.remake(stone, PLAIN, MOST_FIGURE);
+      } else {
+        changed.remake(stone, now.kindOf(stone), now.figureOf(stone));
+      }
+    }
+
+    private void goOn(int stone, int before, int choice) {
+      int more = choice == MADE_PLAIN ? MANY + (1 << stone) : 0;
+      for (int lean = -FARTHEST_LEAN; lean <= FARTHEST_LEAN; lean++) {
+        int from = placeOfWay(lean, before);
+        int to = placeOfWay(lean + changed.leanOf(stone), choice);
+        if (between(from, 0, WAYS - 1) && between(to, 0, WAYS - 1) && ways[from] != NO_WAY) {
+          longerWays[to] = Math.min(longerWays[to], ways[from] + more);
+        }
+      }
+    }
+
+    /** Where the way to a lean and a choice is kept; none for a lean with which it does not stand. */
+    private static int placeOfWay(int lean, int choice) {
+      return between(lean, -FARTHEST_LEAN, FARTHEST_LEAN) && between(choice, AS_IT_IS, MADE_PLAIN)
+          ? 2 * (lean + FARTHEST_LEAN) + choice : NONE;
     }
 
     int fewestToTake() {

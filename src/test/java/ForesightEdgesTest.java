@@ -21,6 +21,7 @@ public final class ForesightEdgesTest {
     swapOnlyForMore();
     twoNowAndBehindThirty();
     twoEachPair();
+    twoFromEachQuarrels();
     twoAtMostQuarrels();
     feverNow();
     feverLeastAndGreatestOdds();
@@ -209,6 +210,26 @@ public final class ForesightEdgesTest {
     two(x, 1, 10);
     two(Told.bridge("m0h55;"), 1, 0);
     two(Told.bridge("m0h55;"), 30, 0);
+  }
+
+  /** As it is really done, from each sum of spite and quarrels, with room and without. */
+  private static void twoFromEachQuarrels() {
+    int[] ns = {1, 2, 3, 6, 30};
+    for (int quarrels = 0; quarrels <= 20; quarrels++) {
+      for (int n : ns) {
+        for (int stones = 0; stones <= 12; stones += 3) {
+          BridgeByTwo x = Told.quarrelling(quarrels);
+          x.takes(Math.max(x.count(0), 1));
+          for (int i = 0; i < stones; i++) {
+            x.lays(1 + 2 * (i % 2), i % 10, (i + n) % 2);
+          }
+          x.image();
+          int due = settled(x, n);
+          x.on();
+          CHECK.due("two " + n + ", " + quarrels + " quarrels, " + stones + " stones", x.two(n), due);
+        }
+      }
+    }
   }
 
   private static void twoAtMostQuarrels() {

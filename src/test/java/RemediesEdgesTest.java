@@ -21,6 +21,8 @@ public final class RemediesEdgesTest {
     fewestFirstAndLast();
     fewestAll();
     fewestOfSeveralTheLeast();
+    fewestToALeanOfSix();
+    fewestAskedAnew();
     fewestKeepsWhoLaid();
     fewestHasFigureNine();
     takeNone();
@@ -186,6 +188,25 @@ public final class RemediesEdgesTest {
     fewest("se90;se90;se90;se90;se90;", 3);
     // The west ones are not among the least: without the two of the first three it leans no more than 6.
     fewest("sw90;se90;se90;se90;se90;se90;", 2);
+  }
+
+  private static void fewestToALeanOfSix() {
+    // To 6 and on from there; 7 would be too far.
+    fewest("se90;se90;se90;se90;sp90;", 1);
+    fewest("sw90;sw90;sw90;sw90;sp90;", 1);
+    fewest("se90;se90;se90;se90;se00;", 3);
+    fewest("sw90;sw90;sw90;sw90;sw00;", 3);
+    fewest("se90;se90;se90;se00;sw90;", 1);
+    fewest("sr90;sr90;sr90;sk90;", 1);
+  }
+
+  private static void fewestAskedAnew() {
+    BridgeByTwo x = Told.bridge("sw90;sw90;sw90;");
+    CHECK.due("it stands at -6", x.fewest(), 0);
+    Told.tell(x, "u3;se90;se90;se90;se90;");
+    CHECK.due("from 0, not from there", x.fewest(), 1);
+    Told.tell(x, "u4;");
+    CHECK.due("none", x.fewest(), 0);
   }
 
   private static void fewestKeepsWhoLaid() {
