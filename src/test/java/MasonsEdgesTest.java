@@ -339,7 +339,7 @@ public final class MasonsEdgesTest {
     CHECK.due("not corrected", x.up(0), -9);
   }
 
-  /** No bridge is up later than behind 14 days. */
+  /** The latest that was found; behind 15 days nothing changes any more. */
   private static void upLatest() {
     BridgeByTwo x = Told.bridge("m0w81;m1e66;");
     CHECK.due("up", x.up(0), 14);

@@ -198,6 +198,9 @@ public final class RemediesEdgesTest {
     fewest("sw90;sw90;sw90;sw90;sw00;", 3);
     fewest("se90;se90;se90;se00;sw90;", 1);
     fewest("sr90;sr90;sr90;sk90;", 1);
+    // It stays at 6 by the stone that becomes plain, and goes on from there.
+    fewest("se90;se90;se90;sw00;sk90;", 8);
+    fewest("sw90;sw90;sw90;sp01;sk90;", 8);
   }
 
   private static void fewestAskedAnew() {
